@@ -433,17 +433,27 @@ public final class WinterStation {
             int leastLack = lackOf(need, sets - 1);
             planLacks[i] = leastLack;
             for (int before = 0; before < sets; before++) {
-                int leastFuel = ABOVE_ALL_FUEL;
-                for (int set = 0; set < sets; set++) {
-                    int fuel = burns[set] + starts[set & ~before] + fuelBehind[set];
-                    if (lackOf(need, set) == leastLack && fuel < leastFuel) {
-                        leastFuel = fuel;
-                        choices[i * SETS + before] = (byte) set;
-                    }
+                fuelFrom[before] = ABOVE_ALL_FUEL;
+            }
+            for (int set = 0; set < sets; set++) {
+                if (lackOf(need, set) == leastLack) {
+                    weighSet(i, set);
                 }
-                fuelFrom[before] = leastFuel;
             }
             System.arraycopy(fuelFrom, 0, fuelBehind, 0, sets);
+        }
+
+        // Sets come from the lowest on, so that only one with less fuel takes a choice over.
+        private void weighSet(int i, int set) {
+            int sets = 1 << engines;
+            int fuelOn = burns[set] + fuelBehind[set];
+            for (int before = 0; before < sets; before++) {
+                int fuel = fuelOn + starts[set & ~before];
+                if (fuel < fuelFrom[before]) {
+                    fuelFrom[before] = fuel;
+                    choices[i * SETS + before] = (byte) set;
+                }
+            }
         }
 
         private int lackOf(int need, int set) {
@@ -642,6 +652,9 @@ public final class WinterStation {
             workBegin[work] = NONE;
             workWho[work] = NONE;
             int skilled = skilledFor(work);
+            if (Integer.bitCount(skilled) < workPeople[work]) {
+                return;
+            }
             int last = Math.min(now + SEARCHED_HOURS - 1, HOURS - workHours[work]);
             for (int begin = now; begin <= last; begin++) {
                 if (isWeatherFor(work, begin, sky, book.bound)) {

@@ -214,6 +214,7 @@ public final class PowerTest {
             x.demand(h, 0);
         }
         D.due("running on or starting again are alike", x.plan(100), 400000);
+        D.due("lacks of this plan alone", x.planned(-1, 1), 300000);
         D.due("hour 0", x.planned(0, 0), 0);
         D.due("hour 1", x.planned(1, 0), 15);
         D.due("hour 2", x.planned(2, 0), 0);

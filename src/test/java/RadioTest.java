@@ -21,7 +21,7 @@ public final class RadioTest {
 
     private static void radioHours() {
         WinterStation x = new WinterStation();
-        int[][] wrong = {{-1, 5, 1}, {0, 24, 1}, {5, 4, 1}, {24, 24, 1}, {0, 23, 0}, {0, 23, 1001},
+        int[][] wrong = {{-1, 5, 1}, {0, 24, 1}, {5, 4, 1}, {24, 24, 1}, {24, 23, 1}, {0, 23, 0}, {0, 23, 1001},
             {0, 23, -1}, {Integer.MIN_VALUE, 5, 1}, {0, Integer.MAX_VALUE, 1}, {0, 5, Integer.MAX_VALUE}};
         for (int[] w : wrong) {
             D.due("radio that can't be", x.radio(w[0], w[1], w[2]), -1);

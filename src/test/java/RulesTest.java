@@ -134,6 +134,18 @@ public final class RulesTest {
         fault("if if < 1 ration 1", 3);
         fault("if wind", 7);
         fault("if wind 5", 8);
+        fault("if wind ration 5", 8);
+        fault("if wind and cold < 1 ration 5", 8);
+        fault("if wind ; 5 ration 1", 8);
+        fault("if wind - 5 ration 1", 8);
+        fault("if and < 5 ration 1", 3);
+        fault("if wind < rest 5 ration 1", 10);
+        fault("if wind < ration 5", 10);
+        fault("if wind < 5 wind cold < 1 ration 1", 12);
+        fault("if wind < 5 - 1 ration 1", 12);
+        fault("rest 1 < rest 2", 7);
+        fault("rest 1 - rest 2", 7);
+        fault("- 5", 0);
         fault("if wind = 5", 8);
         fault("if wind <", 9);
         fault("if wind <= 5", 9);

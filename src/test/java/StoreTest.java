@@ -37,6 +37,12 @@ public final class StoreTest {
         D.due("status", x.status(), -5);
         D.due("the kind is told ahead of no room", x.box(5, 10), -1);
         D.due("count(2)", x.count(2), 12);
+        D.due("the lowest of a full stack", x.take(2), 5);
+        D.due("all but three were lifted", x.count(3), 9);
+        D.due("put back", x.stack(5, 2), 3);
+        D.due("put back", x.stack(5, 10), 1);
+        D.due("no twelfth", x.stack(5, 11), -1);
+        D.due("room again", x.box(5, 6), 12);
         D.due("another stack", x.box(4, 9), 1);
         D.due("count(2)", x.count(2), 13);
     }
