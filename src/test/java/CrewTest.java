@@ -1,3 +1,4 @@
+import java.util.Arrays;
 import java.util.Random;
 
 /** Promises 13 to 17: person, ill, work, schedule, begins. */
@@ -261,8 +262,13 @@ public final class CrewTest {
                 ill[p][h] = true;
             }
         }
-        for (int h = 0; h < 340; h += 5) {
-            x.weather(h, h + random.nextInt(9), 0, random.nextInt(3) > 0, -random.nextInt(45));
+        boolean[] light = new boolean[2400];
+        int[] cold = new int[2400];
+        for (int from = 0; from < 340; from += 5) {
+            int to = from + random.nextInt(9);
+            Arrays.fill(light, from, to + 1, random.nextInt(3) > 0);
+            Arrays.fill(cold, from, to + 1, -random.nextInt(45));
+            x.weather(from, to, 0, light[from], cold[from]);
         }
         Due.rules(x, "rest " + rest + ";cold " + -bound);
         int now = random.nextInt(3) * 20;
@@ -282,7 +288,7 @@ public final class CrewTest {
             int begin = -1;
             int who = -1;
             for (int s = now; s < now + 300 && begin < 0; s++) {
-                int bits = whoCan(x, work[w], s, bound, skills, ill, taken);
+                int bits = isWeather(work[w], s, bound, light, cold) ? whoCan(work[w], s, skills, ill, taken) : 0;
                 if (bits != 0) {
                     begin = s;
                     who = bits;
@@ -300,13 +306,16 @@ public final class CrewTest {
         D.due("random schedule()", left, dueLeft);
     }
 
-    private static int whoCan(WinterStation x, int[] work, int s, int bound, int[] skills,
-            boolean[][] ill, boolean[][] taken) {
+    private static boolean isWeather(int[] work, int s, int bound, boolean[] light, int[] cold) {
         for (int h = s; h < s + work[0]; h++) {
-            if (h > 2399 || work[3] >= 2 && x.hour(h, 1) == 0 || work[3] % 2 == 1 && x.hour(h, 2) < bound) {
-                return 0;
+            if (h > 2399 || work[3] >= 2 && !light[h] || work[3] % 2 == 1 && cold[h] < bound) {
+                return false;
             }
         }
+        return true;
+    }
+
+    private static int whoCan(int[] work, int s, int[] skills, boolean[][] ill, boolean[][] taken) {
         int bits = 0;
         for (int p = 0; p < skills.length && Integer.bitCount(bits) < work[1]; p++) {
             boolean can = (skills[p] & work[2]) == work[2];

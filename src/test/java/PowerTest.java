@@ -251,6 +251,10 @@ public final class PowerTest {
         Due.rules(x, "if cold<-5 ration 40;if hour>9and cold<0ration 15");
         int on = random.nextInt(1 << engines);
         x.on(on);
+        int[] need = new int[n];
+        for (int i = 0; i < n; i++) {
+            need[i] = x.hour(now + i, 4) - x.hour(now + i, 5);
+        }
         int[] best = null;
         int bestLack = 0;
         int bestFuel = 0;
@@ -261,7 +265,7 @@ public final class PowerTest {
             int before = on;
             for (int i = 0; i < n; i++) {
                 sets[i] = p >> engines * (n - 1 - i) & (1 << engines) - 1;
-                int left = x.hour(now + i, 4) - x.hour(now + i, 5);
+                int left = need[i];
                 for (int e = 0; e < engines; e++) {
                     if ((sets[i] >> e & 1) == 1) {
                         left -= output[e];
