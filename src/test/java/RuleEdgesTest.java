@@ -1,3 +1,5 @@
+import java.util.List;
+
 /** The boundary cases of promises 18 to 21 (Terms III): feed, end, rules, fault. */
 public final class RuleEdgesTest {
     private static final Due D = new Due("RuleEdgesTest");
@@ -26,6 +28,7 @@ public final class RuleEdgesTest {
         twentyRules();
         asManyTestsAsFit();
         faultAtEveryToken();
+        everyTokenEverywhere();
         faultAtTheEnd();
         rulesStay();
         faultOfTheLatest();
@@ -394,6 +397,38 @@ public final class RuleEdgesTest {
         }
         WinterStation x = new WinterStation();
         D.taken(x, "without a wrong one", Due.rules(x, String.join(" ", tokens)), 4);
+    }
+
+    // What goes ahead, and which tokens can go on there; each other one is the fault.
+    private static final String[][] GOES_ON = {
+        {"", "rest", "cold", "if"},
+        {"rest 5;", "rest", "cold", "if"},
+        {"rest ", "7", "101", "1000"},
+        {"cold ", "7", "101", "1000"},
+        {"if ", "wind", "cold", "hour"},
+        {"if wind ", "<", ">"},
+        {"if hour<", "-", "7", "101", "1000"},
+        {"if cold>-", "7", "101", "1000"},
+        {"if cold>5 ", "and", "or", "ration"},
+        {"if wind<5 and ", "wind", "cold", "hour"},
+        {"if wind<5 or ", "wind", "cold", "hour"},
+        {"if wind<5 ration ", "7"},
+        {"rest 5 ", ";"},
+        {"cold 5 ", ";"},
+        {"if wind<5 ration 5 ", ";"}};
+    private static final String[] TOKENS = {"rest", "cold", "if", "ration", "and", "or", "wind", "hour", "<", ">", "-",
+        ";", "7", "101", "1000", "1001", "light", "i", "a", "=", "+", "!", "A"};
+
+    private static void everyTokenEverywhere() {
+        D.sentence("III: FAULT: the first TOKEN that can't go on there, of all TOKENS at all places");
+        for (String[] row : GOES_ON) {
+            List<String> canGoOn = List.of(row).subList(1, row.length);
+            for (String token : TOKENS) {
+                // The last byte can go on nowhere, so that a token that can leaves the fault to it.
+                String text = row[0] + token + "?";
+                fault(text, canGoOn.contains(token) ? text.length() - 1 : row[0].length());
+            }
+        }
     }
 
     private static void faultAtTheEnd() {
